@@ -1,6 +1,7 @@
 /** Compares answers with those that are due, prints the wrong ones and counts them. */
 final class Check {
     static final String NOTHING = "nothing";
+    private String sentence = "";
     private int wrong = 0;
     private int made = 0;
 
@@ -9,11 +10,16 @@ final class Check {
         void run();
     }
 
+    /** The promise and the sentence of the document that the checks from here on are for. */
+    void about(String promise, String words) {
+        sentence = promise + " \"" + words + "\": ";
+    }
+
     void same(String what, long got, long want) {
         made++;
         if (got != want) {
             wrong++;
-            System.out.println(what + " answered " + got + ", due is " + want);
+            System.out.println(sentence + what + " answered " + got + ", due is " + want);
         }
     }
 
@@ -25,7 +31,7 @@ final class Check {
         made++;
         if (!got.equals(want)) {
             wrong++;
-            System.out.println(what + " gave " + got + ", due is " + want);
+            System.out.println(sentence + what + " gave " + got + ", due is " + want);
         }
     }
 

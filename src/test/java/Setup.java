@@ -1,12 +1,18 @@
-/** Short ways to bring an object into a state. */
+/** Short ways to bring an object into a state. Rows go in five numbers at a time, to stay below 512 calls. */
 final class Setup {
+    private static final int END = HyphenPatterns.END;
+
     private Setup() {
     }
 
     /** Tells a row: letters and digits for values, '.' for EDGE, '-' for HYPHEN. */
     static void tell(HyphenPatterns x, String row) {
-        for (int i = 0; i < row.length(); i++) {
-            x.tell(number(row.charAt(i)), HyphenPatterns.END, 0, 0, 0);
+        int[] numbers = new int[row.length()];
+        for (int i = 0; i < numbers.length; i++) {
+            numbers[i] = number(row.charAt(i));
+        }
+        for (int from = 0; from < numbers.length; from += 5) {
+            tellFive(x, five(numbers, from));
         }
     }
 
@@ -21,8 +27,9 @@ final class Setup {
     }
 
     static void add(HyphenPatterns x, String text) {
-        for (int i = 0; i < text.length(); i++) {
-            x.add(text.charAt(i), HyphenPatterns.END, 0, 0, 0);
+        int[] numbers = text.chars().toArray();
+        for (int from = 0; from < numbers.length; from += 5) {
+            addFive(x, five(numbers, from));
         }
     }
 
@@ -31,6 +38,32 @@ final class Setup {
         HyphenPatterns x = new HyphenPatterns();
         x.letters('a', 'z', 'a');
         add(x, text);
+        return x;
+    }
+
+    /** A new object with this telling. */
+    static HyphenPatterns withTelling(String row) {
+        HyphenPatterns x = new HyphenPatterns();
+        tell(x, row);
+        return x;
+    }
+
+    /** An object with something of everything: two languages, words, least numbers, a telling that is a pattern. */
+    static HyphenPatterns full() {
+        HyphenPatterns x = withText("abc cab Ba");
+        x.letters('A', 'Z', 'a');
+        x.least(1, 2);
+        pattern(x, "a1b");
+        pattern(x, "2b4c.");
+        exception(x, "c-ab");
+        x.choose(3);
+        x.letters('a', 'b', 'b');
+        x.letters('c', 'c', 'a');
+        x.least(1, 1);
+        pattern(x, "b5c");
+        exception(x, "ab-c");
+        tell(x, "b3a");
+        x.choose(0);
         return x;
     }
 
@@ -50,6 +83,31 @@ final class Setup {
             all.append(x.breaks(p) ? '|' : '.');
         }
         return all.toString();
+    }
+
+    static int tellFive(HyphenPatterns x, int[] five) {
+        return x.tell(five[0], five[1], five[2], five[3], five[4]);
+    }
+
+    static int addFive(HyphenPatterns x, int[] five) {
+        return x.add(five[0], five[1], five[2], five[3], five[4]);
+    }
+
+    /** So many times the number, END behind. */
+    static int[] times(int many, int number) {
+        int[] five = {END, END, END, END, END};
+        for (int i = 0; i < many; i++) {
+            five[i] = number;
+        }
+        return five;
+    }
+
+    private static int[] five(int[] numbers, int from) {
+        int[] five = times(0, END);
+        for (int i = 0; i < 5 && from + i < numbers.length; i++) {
+            five[i] = numbers[from + i];
+        }
+        return five;
     }
 
     private static int number(char c) {
