@@ -35,6 +35,7 @@ public final class TextBoundsTest {
         promise15NotInExceptions();
         promise15PatternsAndExceptions();
         promise15AnotherWhat();
+        askingChangesNothing();
         CHECK.end();
     }
 
@@ -402,5 +403,27 @@ public final class TextBoundsTest {
             CHECK.same("what = " + what, x.count(what), NONE);
             CHECK.same("what = " + what + " in a new object", new HyphenPatterns().count(what), NONE);
         }
+    }
+
+    /** Promises 12 to 15 tell answers alone: an object that was asked answers later calls like one that was not. */
+    private static void askingChangesNothing() {
+        CHECK.about("Not promised", "Nothing is promised beyond the answers and state changes described above");
+        for (int language = 0; language <= 3; language++) {
+            HyphenPatterns asked = Setup.full();
+            HyphenPatterns spared = Setup.full();
+            asked.choose(language);
+            spared.choose(language);
+            String first = allAnswers(asked);
+            CHECK.same("asked again in language " + language, allAnswers(asked), first);
+            CHECK.same("after questions in language " + language, Probe.of(asked), Probe.of(spared));
+        }
+    }
+
+    private static String allAnswers(HyphenPatterns x) {
+        StringBuilder all = new StringBuilder(Setup.values(x, 10)).append(Setup.breaks(x, 10));
+        for (int n = -1; n <= 5; n++) {
+            all.append(' ').append(x.word(n, false)).append(' ').append(x.word(n, true)).append(' ').append(x.count(n));
+        }
+        return all.toString();
     }
 }
